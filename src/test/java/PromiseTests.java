@@ -26,8 +26,10 @@ public final class PromiseTests {
         tries();
         day();
         dayAtTheSameTime();
+        dayForgivesAll();
         alter();
         undo();
+        undoOfTheLastEight();
         shutOut();
         knowsBy();
         when();
@@ -43,9 +45,11 @@ public final class PromiseTests {
         inTime();
         likely();
         street();
+        streetDays();
         keep();
         back();
         count();
+        theLargestStreet();
         System.out.println("PromiseTests: " + (checks - wrong) + " answers as due, " + wrong + " not");
         if (wrong != 0) {
             System.exit(1);
@@ -461,6 +465,24 @@ public final class PromiseTests {
         due("nobody is told whom he does not like", alike.door(0, 2), 0b011111);
     }
 
+    private static void dayForgivesAll() {
+        promise = 11;
+        LastCallersWord x = laid("n8;p200000000;p200000000;p200000000;p200000000;p200000000;p200000000;p200000000;"
+            + "p200000000;d0,0;d0,1;d0,2;d0,3;d0,4;b1;");
+        for (int d = 0; d < 5; d++) {
+            for (int i = 0; i < 8; i++) {
+                due("tries " + i + " " + d, x.tries(i, d), i == d ? 1 : 0);
+            }
+            due("barred at " + d, x.door(d, 3), 255 - (1 << d));
+        }
+        x.call(1, 0);
+        x.tries(0, 0);
+        x.day();
+        for (int d = 0; d < 5; d++) {
+            due("barred at " + d, x.door(d, 3), 0);
+        }
+    }
+
     private static void alter() {
         promise = 12;
         LastCallersWord x = new LastCallersWord();
@@ -516,6 +538,24 @@ public final class PromiseTests {
         }
         due("the ninth", x.undo(), NO);
         due("days", x.count(3), 3);
+    }
+
+    private static void undoOfTheLastEight() {
+        promise = 13;
+        LastCallersWord x = new LastCallersWord();
+        for (int turn = 0; turn < 25; turn++) {
+            x.alter(0, 0, turn % 10);
+            x.call(turn % 5, turn % 4);
+        }
+        for (int turn = 24; turn > 20; turn--) {
+            due("caller", x.door(turn % 4, 1), turn % 5);
+            x.undo();
+            due("caller ahead of it", x.door(turn % 4, 1), (turn - 4) % 5);
+            due("liking", x.likes(0, 0), turn % 10);
+            x.undo();
+            due("liking ahead of it", x.likes(0, 0), (turn - 1) % 10);
+        }
+        due("no more", x.undo(), NO);
     }
 
     private static void shutOut() {
@@ -720,6 +760,9 @@ public final class PromiseTests {
         for (int bad : OUTSIDE) {
             due("d " + bad, x.called(bad), BAD);
         }
+        x.seen(0, 3, 0);
+        due("at 3, not 0", x.called(3), 0b11100);
+        due("at 0 still", x.called(0), 0);
         LastCallersWord both = new LastCallersWord();
         both.seen(1, 0, 0);
         both.seen(1, 0, 1);
@@ -798,6 +841,7 @@ public final class PromiseTests {
         due("7 of 8", y.likely(1, 3, 0), 7);
         due("below", y.likely(1, 3, 1), 8);
         LastCallersWord first = laid("n5;p109876;p200000;p200000;p200000;p200000;d4,0;");
+        due("no DAY yet", first.likely(0, 0, 0), 1);
         due("the DAY comes behind the call: by 1, 2, 3", first.likely(0, 1, 0), 3);
         due("below", first.likely(0, 1, 1), 5);
         due("n 4", x.likely(0, 4, 0), BAD);
@@ -835,6 +879,20 @@ public final class PromiseTests {
             due("what " + bad, x.street(0, 1, bad), BAD);
         }
         due("nothing to undo", x.count(6), 0);
+    }
+
+    private static void streetDays() {
+        promise = 28;
+        // The first two times of z 0 are days: 0 tells 4 and then 5, at both doors.
+        LastCallersWord x = laid("n6;p1098765;p0000000;p0000000;p0000000;p0000000;p0000000;d4,0;d5,0;");
+        due("one day", x.street(0, 1, 0), 0b10);
+        due("nobody is shut out behind none", x.street(0, 1, 1), 0);
+        due("two days", x.street(0, 2, 0), 0);
+        due("behind the second", x.street(0, 2, 1), 1);
+        due("no day went by", x.shutOut(), 0b11);
+        x.day();
+        due("from now on", x.street(0, 1, 0), 0);
+        due("once", x.street(0, 1, 1), 1);
     }
 
     private static void keep() {
@@ -899,6 +957,41 @@ public final class PromiseTests {
         due("what 9", x.count(9), BAD);
         for (int bad : OUTSIDE) {
             due("what " + bad, x.count(bad), BAD);
+        }
+    }
+
+    /** With 8 persons, 5 doors, 6 words: no row may be too short for them. */
+    private static void theLargestStreet() {
+        promise = 31;
+        LastCallersWord x = laid("n8;p101234567;p100000001;p200000000;p300000009;p000000000;p000000000;p000000000;"
+            + "p100000000;d7,0;d0,7;d7,3;d6,1;d7,7;w1;w1;w1;w1;w1;w1;b1;");
+        due("persons", x.count(0), 8);
+        due("doors", x.count(1), 5);
+        due("words", x.count(2), 6);
+        int[] knowers = {0b11100001, 0b10000000, 0b10001000, 0b10000010, 0b10000000};
+        for (int d = 0; d < 5; d++) {
+            due("knowers of " + d, x.door(d, 2), knowers[d]);
+            due("barred at " + d, x.door(d, 3), 0);
+        }
+        due("shut out", x.shutOut(), 0b01010);
+        due("all in", x.allIn(-1), 2);
+        due("0 at 1", x.allIn(1), 0);
+        due("0 at 3", x.allIn(3), 0);
+        due("friend of 7", x.friend(7, 0), 3);
+        due("friend of 0", x.friend(0, 1), 0);
+        due("by a day", x.knowsBy(0, 1), 0b11110001);
+        due("by four", x.knowsBy(0, 4), 0b11111111);
+        due("of 1, whom 0 likes least", x.when(1, 0), 4);
+        due("lets", x.lets(0, 5), 0b10001011);
+        due("keeps", x.keeps(7, 4, 5), 0b01110100);
+        due("likely", x.likely(4, 3, 0), 0);
+        due("a day", x.day(), 1);
+        due("then", x.door(0, 2), 0b11110001);
+        due("the last word", x.guess(5), 5);
+        due("mean", x.mean(0), 7);
+        due("below", x.mean(1), 2);
+        for (int z = 0; z < 10000; z += 1111) {
+            due("street ends", x.street(z, 60, 1) >= 0 ? 1 : 0, 1);
         }
     }
 }
