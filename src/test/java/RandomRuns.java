@@ -2,10 +2,6 @@ import java.util.Random;
 
 /** Random runs of calls, each answered by the class and by the model. */
 public final class RandomRuns {
-    private static final String[] CALLS = {
-        "write", "wipe", "fault", "lay", "person", "likes", "door", "call", "tries", "day", "alter", "undo",
-        "shutOut", "knowsBy", "when", "lets", "keeps", "allIn", "friend", "seen", "forget", "called",
-        "guess", "mean", "inTime", "likely", "street", "keep", "back", "count"};
     private static final int[] WILD = {Integer.MIN_VALUE, Integer.MAX_VALUE, -1, -2, 1 << 30, 32, 64, 255, 10000};
 
     private final Random random;
@@ -62,9 +58,9 @@ public final class RandomRuns {
     }
 
     private String randomCall() {
-        String name = CALLS[random.nextInt(CALLS.length)];
+        String name = Calls.NAMES[random.nextInt(Calls.NAMES.length)];
         if (random.nextInt(4) == 0) {
-            name = CALLS[7 + random.nextInt(5)];
+            name = Calls.NAMES[7 + random.nextInt(5)];
         }
         if (name.equals("lay") && random.nextInt(4) > 0) {
             name = "fault";
@@ -99,7 +95,7 @@ public final class RandomRuns {
     }
 
     private String answer(String name, int a, int b, int c) {
-        int got = ofReal(name, a, b, c);
+        int got = Calls.answer(real, name, a, b, c);
         int due = ofModel(name, a, b, c);
         log.append(name).append('(').append(a).append(',').append(b).append(',').append(c).append(")=").append(got).append(' ');
         return got == due ? null : name + "(" + a + "," + b + "," + c + ") answered " + got + ", due is " + due;
@@ -150,42 +146,6 @@ public final class RandomRuns {
             case 0 -> text.deleteCharAt(place);
             case 1 -> text.insert(place, letter);
             default -> text.setCharAt(place, letter);
-        }
-    }
-
-    private int ofReal(String name, int a, int b, int c) {
-        switch (name) {
-            case "write": return real.write(a);
-            case "wipe": return real.wipe();
-            case "fault": return real.fault();
-            case "lay": return real.lay();
-            case "person": return real.person(a, b);
-            case "likes": return real.likes(a, b);
-            case "door": return real.door(a, b);
-            case "call": return real.call(a, b);
-            case "tries": return real.tries(a, b);
-            case "day": return real.day();
-            case "alter": return real.alter(a, b, c);
-            case "undo": return real.undo();
-            case "shutOut": return real.shutOut();
-            case "knowsBy": return real.knowsBy(a, b);
-            case "when": return real.when(a, b);
-            case "lets": return real.lets(a, b);
-            case "keeps": return real.keeps(a, b, c);
-            case "allIn": return real.allIn(a);
-            case "friend": return real.friend(a, b);
-            case "seen": return real.seen(a, b, c);
-            case "forget": return real.forget();
-            case "called": return real.called(a);
-            case "guess": return real.guess(a);
-            case "mean": return real.mean(a);
-            case "inTime": return real.inTime(a);
-            case "likely": return real.likely(a, b, c);
-            case "street": return real.street(a, b, c);
-            case "keep": return real.keep();
-            case "back": return real.back();
-            case "count": return real.count(a);
-            default: throw new IllegalStateException(name);
         }
     }
 
