@@ -5,10 +5,11 @@ import java.nio.file.Path;
 /** Holds answers against what is due, each under the sentence of the document that asks for it. */
 final class Sheet {
     private static final Path DOCUMENT = Path.of("../shared/DOC.md");
+    private static final long MOST_MILLISECONDS = 120_000;
 
     private final String name;
     private final String document;
-    private String sentence = "no sentence";
+    private volatile String sentence = "no sentence";
     private int sentences = 0;
     private int checks = 0;
     private int wrong = 0;
@@ -16,6 +17,22 @@ final class Sheet {
     Sheet(String name) throws IOException {
         this.name = name;
         document = inOneLine(Files.readString(DOCUMENT));
+        watch();
+    }
+
+    /** A call that does not end is a fault as well: without this the test would wait for it for ever. */
+    private void watch() {
+        Thread watch = new Thread(() -> {
+            try {
+                Thread.sleep(MOST_MILLISECONDS);
+            } catch (InterruptedException stopped) {
+                return;
+            }
+            System.out.println(name + ", '" + sentence + "': a call does not end");
+            Runtime.getRuntime().halt(1);
+        });
+        watch.setDaemon(true);
+        watch.start();
     }
 
     private static String inOneLine(String text) {
